@@ -26,7 +26,9 @@ public final class CarriedOrders {
     private final int[] seenSite;
     private final int[] seenReceipts;
     private int seen;
-    /** For ask(): how many sets leave a site so many receipts. */
+    /** For which() and ask(), by set: the codes that would be kept by it. */
+    private final int[] keptBySet;
+    /** For ask(), by number of receipts: how many sets leave a site so many. */
     private final int[] tally;
 
     public CarriedOrders() {
@@ -41,6 +43,7 @@ public final class CarriedOrders {
         }
         seenSite = new int[MOST_SEEN];
         seenReceipts = new int[MOST_SEEN];
+        keptBySet = new int[1 << MOST_SITES];
         tally = new int[MOST_EACH + 1];
     }
 
@@ -187,7 +190,7 @@ public final class CarriedOrders {
         if (k >= now.lettersOn(x, y)) {
             return NONE;
         }
-        return codeAt(now.carried[World.letterOn(x, y, k)], i);
+        return numberAt(now.carried[World.letterOn(x, y, k)], i);
     }
 
     public int knows(int site, int code) {
@@ -201,7 +204,7 @@ public final class CarriedOrders {
         if (!now.isReceipt(q, r) || i < 0) {
             return BAD;
         }
-        return codeAt(now.pasts[World.codeOf(q, r)], i);
+        return numberAt(now.pasts[World.codeOf(q, r)], i);
     }
 
     // ---- what would be lost
@@ -258,7 +261,7 @@ public final class CarriedOrders {
         if (what == 0) {
             return Integer.bitCount(sets);
         }
-        return codeAt(sets, 0);
+        return numberAt(sets, 0);
     }
 
     public int ask() {
@@ -341,8 +344,9 @@ public final class CarriedOrders {
         int sets = 0;
         int all = now.allSites();
         for (int set = 1; set <= all; set++) {
-            if ((set & now.down) == 0 && agreesWithSeen(now.keptIfDown(now.down | set))) {
-                sets |= 1 << set;
+            if ((set & now.down) == 0) {
+                keptBySet[set] = now.keptIfDown(now.down | set);
+                sets |= agreesWithSeen(keptBySet[set]) ? 1 << set : 0;
             }
         }
         return sets;
@@ -358,14 +362,14 @@ public final class CarriedOrders {
         return true;
     }
 
-    /** The greatest number of the sets that leave a site equally many receipts. */
+    /** The greatest number of the sets, just found possible, that leave a site equally many receipts. */
     private int mostAlike(int sets, int q) {
         Arrays.fill(tally, 0);
         int most = 0;
         int all = now.allSites();
         for (int set = 1; set <= all; set++) {
             if ((sets >> set & 1) != 0) {
-                int left = World.receiptsIn(now.keptIfDown(now.down | set), q);
+                int left = World.receiptsIn(keptBySet[set], q);
                 tally[left]++;
                 most = Math.max(most, tally[left]);
             }
@@ -373,13 +377,13 @@ public final class CarriedOrders {
         return most;
     }
 
-    /** The i-th number, rising, whose bit is set. */
-    private static int codeAt(int bits, int i) {
+    /** The i-th number, rising, whose bit is set; NONE: not so many. */
+    private static int numberAt(int bits, int i) {
         int ahead = 0;
-        for (int code = 0; code < CODES; code++) {
-            if ((bits >>> code & 1) != 0) {
+        for (int number = 0; number < CODES; number++) {
+            if ((bits >>> number & 1) != 0) {
                 if (ahead == i) {
-                    return code;
+                    return number;
                 }
                 ahead++;
             }
@@ -535,10 +539,17 @@ public final class CarriedOrders {
             int all = 0;
             for (int x = 0; x < sites; x++) {
                 for (int y = 0; y < sites; y++) {
-                    for (int k = 0; k < lettersOn(x, y); k++) {
-                        all += Integer.bitCount(carried[letterOn(x, y, k)]);
-                    }
+                    all += carriedOn(x, y);
                 }
+            }
+            return all;
+        }
+
+        int carriedOn(int x, int y) {
+            int all = 0;
+            int letters = lettersOn(x, y);
+            for (int k = 0; k < letters; k++) {
+                all += Integer.bitCount(carried[letterOn(x, y, k)]);
             }
             return all;
         }
@@ -721,7 +732,8 @@ public final class CarriedOrders {
         /** Letters by lost receipts are the last ones of their way, as these receipts are. */
         void keepLettersOn(int x, int y, int kept) {
             int left = 0;
-            for (int k = 0; k < lettersOn(x, y); k++) {
+            int letters = lettersOn(x, y);
+            for (int k = 0; k < letters; k++) {
                 int letter = letterOn(x, y, k);
                 if ((kept >>> birth[letter] & 1) != 0) {
                     left++;
@@ -734,14 +746,22 @@ public final class CarriedOrders {
             written[wayOf(x, y)] = left;
         }
 
+        /** All that are raised hold the same then, so their rows need not be filled ahead. */
+        void learnAll(int p, int held) {
+            for (int s = 0; s < sites; s++) {
+                known[p * MOST_SITES + s] = isDown(s) ? held : heldBy(s);
+            }
+        }
+
+        /** Those that are down hold nothing yet, so what is held now is what the others hold. */
         void tellTheRaised() {
             int held = 0;
             for (int p = 0; p < sites; p++) {
                 held |= heldBy(p);
             }
             for (int p = 0; p < sites; p++) {
-                for (int s = 0; s < sites && isDown(p); s++) {
-                    known[p * MOST_SITES + s] = isDown(s) ? held : heldBy(s);
+                if (isDown(p)) {
+                    learnAll(p, held);
                 }
             }
         }
