@@ -65,6 +65,8 @@ public final class FullTests {
                 Cases.then(lost, Cases.times(8, c -> c.receives(1, 0))), Scenes.EIGHT);
         Cases.due("8 site: 8 receipts", Scenes.EIGHT, c -> c.site(1, 1), 8);
         Cases.due("9 receipt: the eighth", Scenes.EIGHT, c -> c.receipt(1, 7, 2), 657);
+        Cases.due("9 receipt: of the first letter", Scenes.EIGHT, c -> c.receipt(1, 0, 1), 0);
+        Cases.due("9 receipt: of the eighth letter", Scenes.EIGHT, c -> c.receipt(1, 7, 1), 7);
         Cases.due("9 receipt: a ninth", Scenes.EIGHT, c -> c.receipt(1, 8, 2), BAD);
         // 8 * 0 and 8 would be the code of site 1's first one.
         Cases.due("13 past: of a ninth", Scenes.EIGHT, c -> c.past(0, 8, 0), BAD);
@@ -167,7 +169,14 @@ public final class FullTests {
         for (int done = 6; done <= all.length; done++) {
             undone("7 undo, " + done + " done of all kinds", java.util.Arrays.copyOf(all, done));
         }
+        // Others come into the places of PAIR's: 31 + 2 + 2 + 1 = 36, none; 1116 + 3 + 2 + 1 - 997 = 125, to 1.
+        Cases.Call[] others = {c -> c.begins(2, 1), c -> c.puts(0, 2), c -> c.puts(0, 3), c -> c.receives(0, 2),
+            c -> c.receives(0, 2)};
+        Cases.steps("7 undo, others", others, 2, 0, 1, 36, 125);
+        undone("7 undo, others were in their places", Cases.then(Scenes.PAIR, others));
         Cases.Call[] undo = Cases.times(5, c -> c.undo());
+        Cases.same("7 undo: what a letter tells is its own again", Cases.then(Cases.then(Cases.then(
+                java.util.Arrays.copyOf(Scenes.PAIR, 3), others), undo), c -> c.receives(1, 0), c -> c.receives(0, 1)), Scenes.PAIR);
         Cases.Call[] again = Cases.then(row, c -> c.undo(), c -> c.undo(), c -> c.undo(), c -> c.puts(2, 1), c -> c.puts(2, 2),
                 c -> c.puts(2, 3), c -> c.puts(2, 4));
         Cases.due("7 undo: 3 of 5 are undone, 4 are done: 5 are known", again, c -> c.count(9), 5);

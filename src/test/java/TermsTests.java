@@ -189,6 +189,35 @@ public final class TermsTests {
         Cases.due("6 raises: an ORPHAN's letter is no more", raised, c -> c.letter(1, 0, 0, 0), NONE);
     }
 
+    /** 62 + 3 + 2 + 1 = 68, to 0; 31 + 68 + 1 + 1 = 101, to 1. Enough is 1: what site 0 has rests on what 1 alone holds. */
+    private static void orphanOfTheLowestNumber() {
+        Cases.Call[] orphan = Cases.scene(c -> c.begins(2, 1), c -> c.puts(1, 3), c -> c.receives(1, 2), c -> c.receives(0, 1));
+        Cases.Call[] raised = Cases.then(orphan, c -> c.crashes(1), c -> c.raises());
+        Cases.due("14 risk: site 0 is an ORPHAN, LOST", orphan, c -> c.risk(2, 0), 2);
+        Cases.due("14 risk: site 0 is an ORPHAN", orphan, c -> c.risk(2, 1), 1);
+        Cases.due("6 raises: site 0 is an ORPHAN, and HOLDS nothing", raised, c -> c.site(0, 2), 0);
+        Cases.same("6 raises: site 0 is an ORPHAN, as behind puts()", raised, first(2, orphan));
+    }
+
+    private static void carriedNoMore() {
+        Cases.Call[] whole = first(11, Scenes.STAYS);
+        Cases.due("6 raises: ahead, a letter carries 0 and 8", whole, c -> c.letter(0, 3, 0, 2), 2);
+        Cases.due("6 raises: ahead, 2 HOLDS 8", whole, c -> c.knows(2, 8), 7);
+        Cases.due("22 count: ahead, 24 once, and 2, 3, 3", whole, c -> c.count(7), 9);
+        Cases.due("6 raises: a code is held, but what wrote its letter is LOST", Scenes.STAYS, c -> c.site(1, 1), 0);
+        Cases.due("6 raises: it is HELD no more", Scenes.STAYS, c -> c.knows(2, 8), 0);
+        Cases.due("6 raises: it is CARRIED no more, 0 is", Scenes.STAYS, c -> c.carries(0, 3, 0, 0), 0);
+        Cases.due("6 raises: it is CARRIED no more", Scenes.STAYS, c -> c.carries(0, 3, 0, 1), NONE);
+        Cases.due("6 raises: it is CARRIED no more, by another", Scenes.STAYS, c -> c.letter(0, 2, 0, 2), 2);
+        Cases.due("22 count: CARRIED then, 1, 2, 3", Scenes.STAYS, c -> c.count(7), 6);
+        // 1 has a receipt of the same code again: 62 + 2 + 4 + 1 = 69. Then 3 receives what carried the LOST one.
+        Cases.Call[] again = Cases.then(Scenes.STAYS, c -> c.puts(1, 2), c -> c.receives(1, 4), c -> c.receives(3, 0));
+        Cases.due("6 raises: a letter that carried the LOST one does not tell of another", again, c -> c.knows(3, 8), 0);
+        Cases.due("6 raises: that is HELD by its site alone", again, c -> c.receipt(1, 0, 3), 2);
+        Cases.due("6 raises: and KNOWN to it alone", again, c -> c.knows(1, 8), 2);
+        Cases.due("6 raises: 0, 1, 16 and 24 are HELD", again, c -> c.site(3, 2), 4);
+    }
+
     private static void safe() {
         Cases.due("9 receipt: held by ENOUGH, SAFE", Scenes.CHAIN, c -> c.receipt(0, 0, 4), 1);
         Cases.due("9 receipt: held by one fewer, not SAFE", Scenes.CHAIN, c -> c.receipt(1, 0, 4), 0);
@@ -268,6 +297,8 @@ public final class TermsTests {
         seen("one more than it has", Cases.then(Scenes.GAP, c -> c.sees(0, 3)), 0, NONE, NONE);
         seen("two that do not agree", Cases.then(Scenes.GAP, c -> c.sees(0, 2), c -> c.sees(0, 1)), 0, NONE, NONE);
         seen("the same twice", Cases.then(Scenes.GAP, c -> c.sees(0, 1), c -> c.sees(0, 1)), 1, 5, NONE);
+        // By {0} 1 1, by {1} 1 0, by both 0 0: two are alike by either site.
+        seen("the set of all counts, and of several the least", first(4, Scenes.PAIR), 3, 1, 0);
         // With 2 DOWN: 2 1 0 at once, by {0} 1 1 0, by {1} 2 1 0, by both 0 0 0.
         Cases.Call[] down = Cases.then(Scenes.GAP, c -> c.crashes(2));
         seen("2 is DOWN, it is in no set", down, 3, 1, 0);
@@ -286,6 +317,11 @@ public final class TermsTests {
         Cases.due("16 sees: a site that there is no more", Cases.then(four, c -> c.undo()), c -> c.sees(2, 0), BAD);
     }
 
+    /** Two sites: 62 + 9 + 2 + 1 = 74, to 0; 31 + 74 + 1 + 1 = 107, to 1; 31 * 74 + 7 + 0 + 1 - 1994 = 308, to 0. */
+    private static final Cases.Call[] OTHERS = {c -> c.puts(1, 9), c -> c.puts(0, 30), c -> c.receives(1, 2),
+        c -> c.receives(0, 1), c -> c.receives(1, 0)};
+    private static final Cases.Call[] OTHERS_THERE = Cases.then(Scenes.begun(2, 2), OTHERS);
+
     private static void images() {
         Cases.Call[] kept = Cases.then(Scenes.GAP, c -> c.keep(0));
         Cases.same("20 keep: all that 1 tells stays", kept, Scenes.GAP);
@@ -300,6 +336,11 @@ public final class TermsTests {
         Cases.due("21 back: one that is done behind it can", Cases.then(kept, c -> c.back(0), c -> c.crashes(1)), c -> c.undo(), 0);
         Cases.same("21 back: and is undone to the image",
                 Cases.then(kept, c -> c.raises(), c -> c.crashes(0), c -> c.back(0), c -> c.crashes(1), c -> c.undo()), Scenes.GAP);
+        // Other letters and receipts are in the places of those that the image has.
+        Cases.same("21 back: others were there in between", Cases.then(Cases.then(Scenes.PAIR, c -> c.keep(0)),
+                Cases.then(Cases.times(4, c -> c.undo()), OTHERS)), OTHERS_THERE);
+        Cases.same("21 back: all is as the image has it", Cases.then(Cases.then(Scenes.PAIR, c -> c.keep(0)),
+                Cases.then(Cases.then(Cases.times(4, c -> c.undo()), OTHERS), c -> c.back(0))), Scenes.PAIR);
         // The image has four sites; begins(4, ..) is undone, and three are there until it is brought back.
         Cases.Call[] four = Cases.scene(c -> c.begins(4, 4), c -> c.puts(3, 71), c -> c.receives(3, 4), c -> c.keep(1),
                 c -> c.undo(), c -> c.undo(), c -> c.undo());
@@ -341,6 +382,8 @@ public final class TermsTests {
         raisedWithAGap();
         raised();
         orphans();
+        orphanOfTheLowestNumber();
+        carriedNoMore();
         safe();
         pasts();
         risks();

@@ -50,6 +50,17 @@ final class Scenes {
         c -> c.crashes(0), c -> c.raises(), c -> c.puts(0, 1), c -> c.receives(0, 3), c -> c.receives(2, 0)};
 
     /**
+     * Four sites, enough is 3. Site 3: 124 + 4 + 4 + 1 = 133, to 1, carries 24. Site 1: 62 + 33 + 3 + 1 = 99, nothing
+     * left over by 3. 0, raised, knows three of 24, two of 8: 31 + 7 + 4 + 1 = 43, to 3, carries 0 and 8; 1333 + 5 + 4
+     * + 1 - 997 = 346, to 2, carries 0, 1 and 8. Site 2: 93 + 46 + 0 + 1 = 140, to 0, carries 0, 1 and 16. When all but
+     * 2 crash, 24 is lost, and with it 8, though 2 holds that; the letters by 0 and 1, that carried it, stay.
+     */
+    static final Cases.Call[] STAYS = {
+        c -> c.begins(4, 3), c -> c.puts(3, 4), c -> c.receives(3, 4), c -> c.receives(1, 3), c -> c.crashes(0),
+        c -> c.raises(), c -> c.puts(0, 7), c -> c.puts(0, 5), c -> c.receives(0, 4), c -> c.receives(0, 4),
+        c -> c.receives(2, 0), c -> c.crashes(0), c -> c.crashes(1), c -> c.crashes(3), c -> c.raises()};
+
+    /**
      * Four sites, enough is 3; full in each way: 8 letters from outside to 0, that it has all received (31 * s + 10
      * + 4 + 1, what is left over by 997), a letter from 1 to 0 that it has no room for, 3 that is down and has a
      * letter, two images, 6 seen (site 2 keeps its receipt: by the sets {0}, {1} and both), 5 that can be undone.
@@ -92,6 +103,7 @@ final class Scenes {
         Cases.steps("scene EIGHT", EIGHT, 2, 0, 35, 1, 91, 2, 833, 3, 901, 4, 19, 5, 593, 6, 443, 7, 775,
                 98, 139, 355, 40, 263, 271, 469, 657);
         Cases.steps("scene GAP", GAP, 3, 0, 37, 100, 1, 0, 1, 155, 149);
+        Cases.steps("scene STAYS", STAYS, 4, 0, 133, 99, 1, 0, 0, 1, 43, 346, 140, 1, 2, 3, 2);
         Cases.steps("scene RICH", RICH, 4, 0, 1, 2, 3, 4, 5, 6, 7, 46, 444, 818, 448, 942, 304, 466, 503,
                 0, 68, 9, 140, 10, 1, 1, 2, 3, 4, 5, 6);
     }
