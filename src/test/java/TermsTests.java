@@ -171,6 +171,26 @@ public final class TermsTests {
         Cases.same("6 raises: all were DOWN, as behind puts()", Cases.then(none, c -> c.raises()), first(2, Scenes.PAIR));
     }
 
+    /** For each number of sites, to each of them, whichever crash. */
+    private static void lettersFromOutsideStay() {
+        for (int n = 2; n <= 4; n++) {
+            Cases.Call[] put = Scenes.begun(n, n);
+            for (int q = 0; q < n; q++) {
+                int site = q;
+                put = Cases.then(put, c -> c.puts(site, 10 + site), c -> c.puts(site, 20 + site));
+            }
+            for (int set = 1; set < 1 << n; set++) {
+                Cases.Call[] down = put;
+                for (int q = 0; q < n; q++) {
+                    int site = q;
+                    down = (set >> q & 1) == 0 ? down : Cases.then(down, c -> c.crashes(site));
+                }
+                Cases.same("6 raises: letters from OUTSIDE stay, set " + set + " of " + n + " sites",
+                        Cases.then(down, c -> c.raises()), put);
+            }
+        }
+    }
+
     /** 62 + 1 + 2 + 1 = 66, no letter; 35, to 1; 2046 + 35 + 0 + 1 - 1994 = 88, to 0. Enough is 1: nothing is carried. */
     private static void orphans() {
         Cases.Call[] orphan = Cases.scene(c -> c.begins(2, 1), c -> c.puts(1, 1), c -> c.receives(1, 2), c -> c.puts(0, 1),
@@ -381,6 +401,7 @@ public final class TermsTests {
         crashed();
         raisedWithAGap();
         raised();
+        lettersFromOutsideStay();
         orphans();
         orphanOfTheLowestNumber();
         carriedNoMore();
