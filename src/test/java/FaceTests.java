@@ -27,13 +27,17 @@ public final class FaceTests {
             "risk/2", "worst/1", "sees/2", "forget/0", "which/1", "ask/0",
             "keep/1", "back/1", "count/1"));
 
+    private static boolean isPublicName(String name) {
+        return METHODS.stream().anyMatch(m -> m.startsWith(name + "/"));
+    }
+
     private static void face() throws Exception {
         Class<?> c = CarriedOrders.class;
         same("modifiers", c.getModifiers(), Modifier.PUBLIC | Modifier.FINAL);
         Set<String> methods = new TreeSet<>();
         for (Method m : c.getDeclaredMethods()) {
             if (Modifier.isPrivate(m.getModifiers())) {
-                same("private " + m.getName() + " bears a public name", METHODS.toString().contains(m.getName() + "/"), false);
+                same("private " + m.getName() + " bears a public name", isPublicName(m.getName()), false);
                 continue;
             }
             same(m.getName() + " modifiers", m.getModifiers(), Modifier.PUBLIC);
@@ -62,13 +66,12 @@ public final class FaceTests {
         for (Class<?> inside : c.getDeclaredClasses()) {
             same(inside.getName() + " static", Modifier.isStatic(inside.getModifiers()), true);
             for (Method m : inside.getDeclaredMethods()) {
-                same(m.getName() + " inside bears a public name", METHODS.toString().contains(" " + m.getName() + "/"), false);
+                same(m.getName() + " inside bears a public name", isPublicName(m.getName()), false);
             }
         }
     }
 
-    private static void language() throws Exception {
-        String text = Files.readString(Path.of("src/main/java/CarriedOrders.java"));
+    private static void language(String text) {
         String bare = text.replaceAll("(?s)/\\*.*?\\*/", "").replaceAll("//[^\n]*", "");
         for (String word : new String[] {"throw", "throws", "try", "catch", "synchronized", "assert", "package",
                 "protected", "Random", "System\\.(?!arraycopy)", "Thread", "Object", "->", "::", "\\w+Exact\\("}) {
@@ -82,9 +85,53 @@ public final class FaceTests {
         }
     }
 
+    private static void atMost(String what, int got, int most) {
+        same(what + " (" + got + "), more than " + most, got > most, false);
+    }
+
+    private static void sizes(String text) {
+        Class<?>[] inside = CarriedOrders.class.getDeclaredClasses();
+        atMost("classes", 1 + inside.length, 12);
+        Class<?>[] all = Arrays.copyOf(inside, inside.length + 1);
+        all[inside.length] = CarriedOrders.class;
+        for (Class<?> c : all) {
+            int fields = 0;
+            for (Field f : c.getDeclaredFields()) {
+                fields += Modifier.isStatic(f.getModifiers()) ? 0 : 1;
+            }
+            atMost("fields of " + c.getName(), fields, 20);
+            for (Method m : c.getDeclaredMethods()) {
+                atMost("parameters of " + m.getName(), m.getParameterCount(), 7);
+            }
+        }
+        Matcher methods = Pattern.compile("(?ms)^( {4}| {8})\\w[^\n;=]*\\) \\{$.*?^\\1\\}$").matcher(text);
+        int found = 0;
+        while (methods.find()) {
+            found++;
+            String[] lines = methods.group().split("\n");
+            atMost("lines of" + lines[0], lines.length, 60);
+        }
+        // Those of the face at least, or the lines above did not find them.
+        same("methods found in the source", found > METHODS.size(), true);
+    }
+
+    /** All rows are made with the object: behind the constructor, "new" is only in what a class inside is made with. */
+    private static void noCallMakesAnObject(String text) {
+        String calls = text.substring(text.indexOf("// ---- what is done"));
+        Pattern making = Pattern.compile("\\bnew \\w|\\.clone\\(|copyOf");
+        for (String line : calls.split("\n")) {
+            boolean made = making.matcher(line.replaceAll("//.*|^\\s*/?\\*.*", "")).find();
+            boolean field = line.matches(" {8}final int\\[\\] \\w+ = new int\\[[A-Z_* ]+\\];");
+            same("makes an object:" + line, made && !field, false);
+        }
+    }
+
     public static void main(String[] args) throws Exception {
+        String text = Files.readString(Path.of("src/main/java/CarriedOrders.java"));
         face();
-        language();
+        language(text);
+        sizes(text);
+        noCallMakesAnObject(text);
         System.out.println(wrong == 0 ? "the face is as due" : wrong + " faults");
         if (wrong != 0) {
             System.exit(1);
